@@ -856,18 +856,17 @@ public final class RingStones {
         Game() {
             board = new Board(new Grid(1, FEWEST_SECTORS));
             positions = new Positions();
+            turn = BLACK;
+            rule = 0;
+            bonus = 0;
             begin(board.grid, 0, 0);
         }
 
-        /** Begins on other stones, with black's turn, the rule 0 and no bonus. */
         void begin(Grid grid, long black, long white) {
             board.grid = grid;
-            turn = BLACK;
             movesMade = 0;
             capturedBlack = 0;
             capturedWhite = 0;
-            rule = 0;
-            bonus = 0;
             replaceStones(black, white);
         }
 

@@ -69,6 +69,10 @@ public final class ChainTest {
         Due.throwsJust("freedom(1, 0) of an empty place", INDEX, () -> x.freedom(1, 0));
         Due.throwsJust("freedom(24, 0)", INDEX, () -> x.freedom(24, 0));
         Due.throwsJust("freedom(-1, 0)", INDEX, () -> x.freedom(-1, 0));
+        Due.throwsJust("freedom(64, 0)", INDEX, () -> x.freedom(64, 0));
+        RingStones first = Due.board("board 1 4; row oboo;");
+        Due.gives("freedom(1, 0)", 0, () -> first.freedom(1, 0));
+        Due.gives("freedom(1, 1)", 2, () -> first.freedom(1, 1));
         RingStones last = Due.board("board 5 12; row oooooooooooo; row oooooooooooo; row oooooooooooo; row oooooooooooo;"
             + " row ooooooooooob;");
         Due.gives("freedom(59, 0)", 47, () -> last.freedom(59, 0));
@@ -88,6 +92,8 @@ public final class ChainTest {
         Due.gives("chains(2, 1)", 0, () -> x.chains(2, 1));
         Due.gives("chains(2, 2)", 1, () -> x.chains(2, 2));
         Due.gives("chains(2, 3)", 2, () -> x.chains(2, 3));
+        RingStones first = Due.board("board 1 4; row bowo;");
+        Due.gives("chains(1, 2) with a stone on place 0", 1, () -> first.chains(1, 2));
         for (int colour : new int[] {0, 3, -1}) {
             Due.throwsJust("chains(" + colour + ", 1)", ARGUMENT, () -> x.chains(colour, 1));
         }
@@ -102,6 +108,9 @@ public final class ChainTest {
         RingStones lowest = Due.board("board 1 9; row obbowobbo;");
         Due.gives("weakest(1): then the lowest place", 1, () -> lowest.weakest(1));
         Due.gives("weakest(2): the only one", 4, () -> lowest.weakest(2));
+        RingStones first = Due.board("board 1 9; row bowoobooo;");
+        first.setStone(8, 2);
+        Due.gives("weakest(1) on place 0", 0, () -> first.weakest(1));
         RingStones none = new RingStones();
         Due.throwsJust("weakest(1) without stones", NoSuchElementException.class, () -> none.weakest(1));
         Due.throwsJust("weakest(2) without stones", NoSuchElementException.class, () -> none.weakest(2));

@@ -93,8 +93,14 @@ public final class FaceTest {
         List<String> want = new ArrayList<>(Arrays.asList(METHODS));
         Collections.sort(want);
         Due.gives("the open methods", want, () -> open);
+        for (Class<?> inside : RingStones.class.getDeclaredClasses()) {
+            Due.holds(inside + " is static", Modifier.isStatic(inside.getModifiers()));
+            for (Method method : inside.getDeclaredMethods()) {
+                hidden.add(method.getName());
+            }
+        }
         for (String name : hidden) {
-            Due.holds("the private name " + name + " is no public one", !String.join(";", METHODS).contains(" " + name + "("));
+            Due.holds("the name " + name + " is no public one", !String.join(";", METHODS).contains(" " + name + "("));
         }
     }
 

@@ -45,8 +45,10 @@ public final class LifeTest {
         Due.gives("a row of chains falls from its ends", "false false false false",
             () -> row.isAlive(1) + " " + row.isAlive(3) + " " + row.isAlive(5) + " " + row.isAlive(7));
         Due.gives("two regions are vital to the chains in the middle", "2 2", () -> row.chain(3, 4) + " " + row.chain(5, 4));
-        RingStones mixed = Due.board("board 3 6; row bobobb; row bbbbbo; row wwbowo;");
-        Due.gives("a living chain beside a region of another one", true, () -> mixed.isAlive(0));
+        RingStones mixed = Due.board("board 3 8; row obobobww; row wbbbbbwo; row owwwwbob;");
+        Due.gives("a living chain beside one that is left out", "true false",
+            () -> mixed.isAlive(1) + " " + mixed.isAlive(23));
+        Due.gives("the regions vital to them", "2 0", () -> mixed.chain(1, 4) + " " + mixed.chain(23, 4));
     }
 
     private static void promise28Alive() {
@@ -61,6 +63,8 @@ public final class LifeTest {
         RingStones both = Due.board("board 5 6; row bobobo; row bbbbbb; row oooooo; row wwwwww; row wowowo;");
         Due.gives("alive(1)", 9, () -> both.alive(1));
         Due.gives("alive(2)", 9, () -> both.alive(2));
+        RingStones first = Due.board("board 1 3; row boo;");
+        Due.gives("alive(1) of a stone on place 0", 0, () -> first.alive(1));
         for (int colour : new int[] {0, 3, -1}) {
             Due.throwsJust("alive(" + colour + ")", ARGUMENT, () -> x.alive(colour));
         }

@@ -89,6 +89,9 @@ public final class PoolTest {
         Due.gives("a pool that only ends in few freedoms", true, () -> two.isStandoff(7));
         RingStones captured = Due.board("board 1 12; row bwwobobwwobo;");
         Due.gives("a capture leaves two freedoms", false, () -> captured.isStandoff(3));
+        RingStones white = Due.board("board 2 6; row owoowb; row wwbobw;");
+        Due.gives("moves that leave two freedoms at most", "0 2", () -> white.move(0, 1, 2) + " " + white.move(0, 2, 2));
+        Due.gives("white alone can enter", false, () -> white.isStandoff(0));
         RingStones own = Due.board("board 1 5; row bobow;");
         Due.gives("a pool of one owner", false, () -> own.isStandoff(1));
         RingStones twoPlaces = Due.board("board 2 4; row bowo; row bowo;");

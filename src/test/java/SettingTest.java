@@ -7,6 +7,7 @@ public final class SettingTest {
     public static void main(String[] args) {
         promise19SetStone();
         promise19BeginsAnew();
+        promise19ForgetsPositions();
         promise19Refused();
         promise20SetTurn();
         promise21SetRule();
@@ -50,6 +51,22 @@ public final class SettingTest {
         x.setStone(17, 0);
         Due.gives("no passes in a row", 0, () -> x.count(6));
         Due.gives("moves stay", 2, () -> x.count(5));
+    }
+
+    private static void promise19ForgetsPositions() {
+        RingStones x = Due.board("board 1 6; rule 1; row bowoow;");
+        x.setStone(5, 0);
+        Due.gives("the stones before setStone are no position", 0, () -> x.reason(5, 2));
+        x.play(3);
+        x.setStone(3, 0);
+        Due.gives("nor are those of a move before it", 0, () -> x.reason(3, 1));
+        x.setRule(1);
+        x.setStone(0, 0);
+        x.setTurn(2);
+        x.play(5);
+        Due.gives("nor behind one more move", 0, () -> x.reason(0, 1));
+        Due.load(x, "board 1 6; rule 1; row oowooo;");
+        Due.gives("nor those before load", 0, () -> x.reason(5, 2));
     }
 
     private static void promise19Refused() {

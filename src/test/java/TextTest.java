@@ -112,6 +112,9 @@ public final class TextTest {
         faulty(" Board 1 3;row ooo;", SYNTAX, 1);
         faulty("boar", SYNTAX, 0);
         faulty("boards 1 3;row ooo;", SYNTAX, 0);
+        faulty("hoard 1 3;row ooo;", SYNTAX, 0);
+        faulty("board 1 3;mow ooo;", SYNTAX, 10);
+        faulty("board 1 3;turn slack;row ooo;", SYNTAX, 15);
         faulty("board", SYNTAX, 5);
         faulty("board ;", SYNTAX, 6);
         faulty("board 1", SYNTAX, 7);
@@ -171,6 +174,8 @@ public final class TextTest {
         faulty("board 1 3;row oooo;", VALUE, 14);
         faulty("board 1 3;row oxo;", VALUE, 14);
         faulty("board 1 3;row ooa", VALUE, 14);
+        faulty("board 1 3;row oooz;", VALUE, 14);
+        faulty("board 1 3;row oooa;", VALUE, 14);
         faulty("board 1 3;row row;", VALUE, 14);
         faulty("board 2 3;row ooo;row oooo;", VALUE, 22);
         faulty("board 1 3;row bbb;", VALUE, 18);

@@ -86,11 +86,22 @@ public final class UndoTest {
         undone(x, "restore", () -> x.restore(1));
         x.play(8);
         x.setTurn(2);
+        whitesCapture(x);
         String before = Due.state(x);
         x.setRule(1);
         Due.gives("other reasons", false, () -> before.equals(Due.state(x)));
         x.undo();
         Due.gives("the positions come back", before, () -> Due.state(x));
+    }
+
+    private static void whitesCapture(RingStones x) {
+        x.setRule(1);
+        String before = Due.state(x);
+        x.play(7);
+        Due.gives("a captured black stone", 1, () -> x.count(7));
+        x.undo();
+        Due.gives("everything behind undo of white's capture", before, () -> Due.state(x));
+        x.undo();
     }
 
     private static void promise35EightChanges() {
