@@ -8,8 +8,14 @@ final class Due {
 
     private static int wrong = 0;
     private static int looked = 0;
+    private static String sentence = "";
 
     private Due() {
+    }
+
+    /** The sentence of the document that the next answers belong to; an answer that is not as due is told with it. */
+    static void sentence(String words) {
+        sentence = "\"" + words + "\": ";
     }
 
     /** The call must give this answer (an int, a boolean or a float). */
@@ -18,7 +24,7 @@ final class Due {
         Object got = answer(call);
         if (!want.equals(got)) {
             wrong++;
-            System.out.println(what + " answered " + got + ", due is " + want);
+            System.out.println(sentence + what + " answered " + got + ", due is " + want);
         }
     }
 
@@ -74,6 +80,33 @@ final class Due {
         int code = load(x, text);
         holds("the text " + text + " has no error", code >= 0);
         return x;
+    }
+
+    /** The text of a board with these letters, from place 0 on, without an option. */
+    static String text(int rings, int sectors, String letters) {
+        StringBuilder text = new StringBuilder("board ").append(rings).append(' ').append(sectors).append(';');
+        for (int ring = 0; ring < rings; ring++) {
+            text.append("row ").append(letters, sectors * ring, sectors * (ring + 1)).append(';');
+        }
+        return text.toString();
+    }
+
+    /** Letters with other ones on these places. */
+    static String put(String letters, char letter, int... places) {
+        StringBuilder changed = new StringBuilder(letters);
+        for (int place : places) {
+            changed.setCharAt(place, letter);
+        }
+        return changed.toString();
+    }
+
+    /** The text that was written last, byte by byte. */
+    static String written(RingStones x) {
+        StringBuilder text = new StringBuilder();
+        for (int i = 0; answer(() -> x.writtenByte(text.length())) instanceof Integer; i++) {
+            text.append((char) x.writtenByte(i));
+        }
+        return text.toString();
     }
 
     /** Whatever can be asked about the board, as one text. */
